@@ -3,6 +3,9 @@ import java.util.Arrays;
 
 /** Counts and prints the answers that are not the ones due. */
 final class Checks {
+    /** A class that is wrong throughout would fill the disk with its lines otherwise. */
+    private static final int MOST_LINES = 1000;
+
     private int asked = 0;
     private int wrong = 0;
 
@@ -10,7 +13,9 @@ final class Checks {
         asked++;
         if (got != want) {
             wrong++;
-            System.out.println(call + " answered " + got + ", due is " + want);
+            if (wrong <= MOST_LINES) {
+                System.out.println(call + " answered " + got + ", due is " + want);
+            }
         }
     }
 
