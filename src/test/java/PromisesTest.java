@@ -46,27 +46,6 @@ public final class PromisesTest {
         checks.due(call, got, want);
     }
 
-    /** Farms of families 0, 1, 2 .. in group 0. */
-    private static PeerCircle circleOf(int farms) {
-        PeerCircle circle = new PeerCircle();
-        for (int f = 0; f < farms; f++) {
-            circle.farm(f, 0);
-        }
-        return circle;
-    }
-
-    private static PeerCircle laidCircleOf(int farms) {
-        PeerCircle circle = circleOf(farms);
-        circle.lay();
-        return circle;
-    }
-
-    /** The first two visitors of a farm tell a point as broken. */
-    private static void breach(PeerCircle circle, int f, int point) {
-        circle.tells(circle.visitor(f, 0), f, point, true);
-        circle.tells(circle.visitor(f, 1), f, point, true);
-    }
-
     private void newObject() {
         PeerCircle circle = new PeerCircle();
         int[] first = {0, 0, 0, 0, 0, 0, 0};
@@ -181,7 +160,7 @@ public final class PromisesTest {
         due("the whole tape is empty", circle.count(6), 0);
         due("rules(1) of an empty tape", circle.rules(1), NONE);
         due("rules(0) of an empty tape", circle.rules(0), 100);
-        circle = laidCircleOf(4);
+        circle = Circles.laid(4);
         due("rules when laid", Checks.rules(circle, "n1;v1"), 0);
         due("the visits that are laid stay", circle.count(3), 12);
         due("visitor stays", circle.visitor(0, 2), 3);
@@ -201,7 +180,7 @@ public final class PromisesTest {
         }
         due("an eleventh", circle.farm(0, 0), NONE);
         due("ten", circle.count(0), 10);
-        circle = laidCircleOf(3);
+        circle = Circles.laid(3);
         due("a farm when the visits are laid", circle.farm(5, 0), 3);
         due("has no visitors", circle.look(3, 8), 0);
         due("makes no visits", circle.look(3, 9), 0);
@@ -211,7 +190,7 @@ public final class PromisesTest {
     }
 
     private void buys() {
-        PeerCircle circle = circleOf(3);
+        PeerCircle circle = Circles.of(3);
         due("does not buy", circle.buys(0, 1, false), false);
         due("buys", circle.buys(0, 1, true), true);
         due("it is so", circle.buys(0, 1, true), false);
@@ -246,9 +225,9 @@ public final class PromisesTest {
 
     private void lay() {
         due("no farms", new PeerCircle().lay(), 0);
-        due("one farm", circleOf(1).lay(), 0);
-        due("two farms", circleOf(2).lay(), 2);
-        PeerCircle circle = circleOf(8);
+        due("one farm", Circles.of(1).lay(), 0);
+        due("two farms", Circles.of(2).lay(), 2);
+        PeerCircle circle = Circles.of(8);
         due("eight farms", circle.lay(), 24);
         for (int f = 0; f < 8; f++) {
             due("visitors of " + f, circle.look(f, 8), 3);
@@ -258,7 +237,7 @@ public final class PromisesTest {
         due("and they stay", circle.count(3), 24);
         circle.year();
         due("a new year's", circle.lay(), 24);
-        circle = circleOf(5);
+        circle = Circles.of(5);
         Checks.rules(circle, "v0");
         due("no visits at all", circle.lay(), 0);
         due("but laid", circle.count(2), 1);
@@ -292,7 +271,7 @@ public final class PromisesTest {
         due("visitor(2, 0)", circle.visitor(2, 0), 1);
         due("visitor(3, 0)", circle.visitor(3, 0), 0);
         // of like ways a lack comes late: ten is more than any number
-        circle = circleOf(3);
+        circle = Circles.of(3);
         Checks.rules(circle, "n2;v1");
         due("three visits", circle.lay(), 3);
         due("visitor(0, 0) first", circle.visitor(0, 0), 1);
@@ -302,7 +281,7 @@ public final class PromisesTest {
     }
 
     private void layByWhatIsToldThen() {
-        PeerCircle circle = laidCircleOf(4);
+        PeerCircle circle = Circles.laid(4);
         circle.buys(0, 1, true);
         due("told too late", circle.count(3), 12);
         due("1 visits 0 still", circle.visitor(0, 0), 1);
@@ -314,9 +293,9 @@ public final class PromisesTest {
         due("visits by 4", circle.look(4, 9), 3);
         due("visitors of 4", circle.look(4, 8), 3);
         // who is out visits and is visited, too
-        circle = laidCircleOf(4);
+        circle = Circles.laid(4);
         circle.weight(0, 99);
-        breach(circle, 0, 0);
+        Circles.breach(circle, 0, 0);
         circle.year();
         due("0 is out", circle.look(0, 4), 2);
         circle.lay();
@@ -327,7 +306,7 @@ public final class PromisesTest {
     }
 
     private void visitor() {
-        PeerCircle circle = circleOf(4);
+        PeerCircle circle = Circles.of(4);
         due("not laid", circle.visitor(0, 0), NONE);
         circle.lay();
         int[] ofTwo = {0, 1, 3, NONE};
@@ -343,7 +322,7 @@ public final class PromisesTest {
     }
 
     private void tells() {
-        PeerCircle circle = circleOf(4);
+        PeerCircle circle = Circles.of(4);
         due("not laid", circle.tells(1, 0, 0, true), false);
         circle.lay();
         due("tells(1, 0, 0, true)", circle.tells(1, 0, 0, true), true);
@@ -358,14 +337,14 @@ public final class PromisesTest {
         due("only one told", circle.breaches(0), 0);
         due("2 vouches still", circle.vouches(2, 0), 1);
         // who does not visit tells nothing
-        circle = circleOf(4);
+        circle = Circles.of(4);
         circle.buys(1, 0, true);
         circle.lay();
         due("1 does not visit 0", circle.tells(1, 0, 0, true), false);
         due("nor 0 visits 1", circle.tells(0, 1, 0, true), false);
         // what was told last year is forgotten
-        circle = laidCircleOf(4);
-        breach(circle, 0, 3);
+        circle = Circles.laid(4);
+        Circles.breach(circle, 0, 3);
         circle.year();
         due("a new year", circle.breaches(0), 0);
         circle.lay();
@@ -377,7 +356,7 @@ public final class PromisesTest {
     }
 
     private void breaches() {
-        PeerCircle circle = circleOf(4);
+        PeerCircle circle = Circles.of(4);
         due("not laid", circle.breaches(0), 0);
         circle.lay();
         due("nothing told", circle.breaches(0), 0);
@@ -402,11 +381,11 @@ public final class PromisesTest {
     }
 
     private void weighs() {
-        PeerCircle circle = laidCircleOf(4);
+        PeerCircle circle = Circles.laid(4);
         due("nothing", circle.weighs(0), 0);
         for (int point = 0; point < 8; point++) {
             circle.weight(point, 10 + point);
-            breach(circle, 0, point);
+            Circles.breach(circle, 0, point);
         }
         due("all points", circle.weighs(0), 10 * 8 + 28);
         circle.weight(3, 99);
@@ -417,7 +396,7 @@ public final class PromisesTest {
     }
 
     private void vouches() {
-        PeerCircle circle = circleOf(4);
+        PeerCircle circle = Circles.of(4);
         due("not laid", circle.vouches(1, 0), 0);
         circle.buys(3, 0, true);
         circle.lay();
@@ -445,7 +424,7 @@ public final class PromisesTest {
     }
 
     private void trust() {
-        PeerCircle circle = line();
+        PeerCircle circle = Circles.line();
         due("not laid", circle.trust(0, 1), NONE);
         due("itself", circle.trust(9, 9), 0);
         due("a line of ten", circle.lay(), 18);
@@ -458,7 +437,7 @@ public final class PromisesTest {
         due("over the gap", circle.trust(0, 5), NONE);
         due("the other way", circle.trust(9, 0), 9);
         // broken trust goes round about
-        circle = laidCircleOf(3);
+        circle = Circles.laid(3);
         due("direct", circle.trust(0, 1), 1);
         circle.tells(0, 1, 0, true);
         due("over 2", circle.trust(0, 1), 2);
@@ -470,22 +449,8 @@ public final class PromisesTest {
         due("a way again", circle.trust(0, 1), 2);
     }
 
-    /** Ten farms in a line, each of which can be visited only by the one before it and the one behind it. */
-    private static PeerCircle line() {
-        PeerCircle circle = new PeerCircle();
-        for (int f = 0; f < 10; f++) {
-            circle.farm(f % 8, 0);
-        }
-        for (int f = 0; f < 10; f++) {
-            for (int v = 0; v < f - 1; v++) {
-                circle.buys(v, f, true);
-            }
-        }
-        return circle;
-    }
-
     private void sell() {
-        PeerCircle circle = laidCircleOf(4);
+        PeerCircle circle = Circles.laid(4);
         due("no seal yet", circle.sell(0, 1), false);
         circle.year();
         due("sell(0, 1)", circle.sell(0, 1), true);
@@ -505,14 +470,14 @@ public final class PromisesTest {
     }
 
     private void doubtful() {
-        PeerCircle circle = circleOf(8);
+        PeerCircle circle = Circles.of(8);
         circle.lay();
         circle.year();
         circle.sell(0, 7);
         circle.sell(1, 8);
         circle.lay();
-        breach(circle, 0, 2);
-        breach(circle, 1, 2);
+        Circles.breach(circle, 0, 2);
+        Circles.breach(circle, 1, 2);
         due("not before the year's end", circle.look(0, 6), 0);
         circle.tells(circle.visitor(1, 0), 1, 2, false);
         circle.year();
@@ -526,14 +491,14 @@ public final class PromisesTest {
         circle.sell(0, 30);
         circle.lay();
         circle.weight(0, 99);
-        breach(circle, 0, 0);
+        Circles.breach(circle, 0, 0);
         circle.year();
         due("and again", circle.look(0, 6), 37);
         due("out by it", circle.look(0, 4), 2);
     }
 
     private void yearSteps() {
-        PeerCircle circle = circleOf(8);
+        PeerCircle circle = Circles.of(8);
         Checks.rules(circle, "w3;x9;b2");
         circle.weight(0, 2);
         circle.weight(1, 3);
@@ -542,7 +507,7 @@ public final class PromisesTest {
         int[] steps = {0, 1, 0, 1, 2, 1, 0, 0, 1, 2, 0};
         for (int i = 0; i < points.length; i++) {
             circle.lay();
-            breach(circle, 0, points[i]);
+            Circles.breach(circle, 0, points[i]);
             circle.year();
             due("step in year " + (i + 1), circle.look(0, 3), steps[i]);
             due("out in year " + (i + 1), circle.look(0, 4), i == points.length - 1 ? 2 : 0);
@@ -550,12 +515,12 @@ public final class PromisesTest {
             due("no step of another", circle.look(1, 3), 0);
         }
         // what makes one out comes first, even where a warning needs more
-        circle = laidCircleOf(8);
+        circle = Circles.laid(8);
         Checks.rules(circle, "w50;x4;b1");
         circle.weight(0, 4);
-        breach(circle, 0, 0);
+        Circles.breach(circle, 0, 0);
         circle.weight(1, 3);
-        breach(circle, 1, 1);
+        Circles.breach(circle, 1, 1);
         circle.year();
         due("x below w", circle.look(0, 4), 1);
         due("below both", circle.look(1, 4), 0);
@@ -563,16 +528,16 @@ public final class PromisesTest {
     }
 
     private void yearOut() {
-        PeerCircle circle = circleOf(8);
+        PeerCircle circle = Circles.of(8);
         Checks.rules(circle, "b3;x9");
         circle.weight(0, 8);
         circle.lay();
-        breach(circle, 0, 0);
+        Circles.breach(circle, 0, 0);
         circle.year();
         due("below x: a step", circle.look(0, 3), 1);
         circle.weight(0, 9);
         circle.lay();
-        breach(circle, 0, 0);
+        Circles.breach(circle, 0, 0);
         circle.year();
         due("at x: out", circle.look(0, 4), 3);
         due("its step", circle.look(0, 3), 0);
@@ -583,7 +548,7 @@ public final class PromisesTest {
         for (int left = 2; left >= 0; left--) {
             circle.lay();
             due("it is visited", circle.look(0, 8) >= 2 ? 1 : 0, 1);
-            breach(circle, 0, 0);
+            Circles.breach(circle, 0, 0);
             circle.year();
             due("nothing is asked: years out", circle.look(0, 4), left);
             due("nothing is asked: step", circle.look(0, 3), 0);
@@ -596,7 +561,7 @@ public final class PromisesTest {
     }
 
     private void yearSeals() {
-        PeerCircle circle = circleOf(3);
+        PeerCircle circle = Circles.of(3);
         Checks.rules(circle, "n2;v1");
         circle.lay();
         circle.year();
@@ -611,7 +576,7 @@ public final class PromisesTest {
     }
 
     private void yearRefused() {
-        PeerCircle circle = circleOf(4);
+        PeerCircle circle = Circles.of(4);
         due("not laid", circle.year(), NONE);
         due("still year 0", circle.count(1), 0);
         circle.lay();
@@ -652,7 +617,7 @@ public final class PromisesTest {
         for (int group : new int[] {-1, 4, MOST, LEAST}) {
             due("sealed(" + group + ")", circle.sealed(group), NONE);
         }
-        circle = laidCircleOf(4);
+        circle = Circles.laid(4);
         Checks.rules(circle, "g100");
         due("before the year", circle.sealed(0), 0);
         circle.year();
@@ -662,7 +627,7 @@ public final class PromisesTest {
     }
 
     private void barred() {
-        PeerCircle circle = circleOf(4);
+        PeerCircle circle = Circles.of(4);
         circle.farm(1, 3);
         due("itself", circle.barred(2, 2), 1);
         due("kin", circle.barred(1, 4), 1);
@@ -685,7 +650,7 @@ public final class PromisesTest {
         circle.year();
         due("the year before the last is not", circle.barred(guest, 0), 0);
         // only one way
-        circle = circleOf(3);
+        circle = Circles.of(3);
         Checks.rules(circle, "n2;v1");
         circle.lay();
         circle.year();
@@ -718,7 +683,7 @@ public final class PromisesTest {
     }
 
     private void count() {
-        PeerCircle circle = circleOf(4);
+        PeerCircle circle = Circles.of(4);
         Checks.feed(circle, "n1");
         due("farms", circle.count(0), 4);
         due("bytes", circle.count(6), 20);
