@@ -1,7 +1,7 @@
 /**
  * The boundary cases of the promises 1 to 19: a case for each sentence (or each part of one) that names such a boundary;
- * the number of the promise stands in the name of the case. A refused call is followed by a look at all that can be
- * asked: "A call that is refused (NONE, false) changes nothing but the tape, where it is told."
+ * the number of the promise stands in the name of the case. Refusals asked by dueNone and dueFalse are followed by a
+ * look at all that can be asked: "A call that is refused (NONE, false) changes nothing but the tape, where it is told."
  */
 public final class BoundaryPromisesTest extends Cases {
     private static final String SIXTY = "n1;".repeat(18) + "v2;w34";
